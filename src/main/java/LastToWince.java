@@ -202,7 +202,7 @@ public final class LastToWince {
             world.law.copy(reader.law);
             return world.law.lines;
         }
-        // what was told of hands and lots is changed by these alone, so only they make the past stale
+        // the law and the speech leave what can be undone, the other texts do not
         if (k != SPEECH) {
             past.forget();
         }
@@ -266,10 +266,10 @@ public final class LastToWince {
             return NONE;
         }
         switch (what) {
-            case 0: return world.book.minute[i];
-            case 1: return world.book.what[i];
-            case 2: return world.book.who[i];
-            case 3: return world.book.which[i];
+            case 0: return world.bookMinute[i];
+            case 1: return world.bookWhat[i];
+            case 2: return world.bookDealer[i];
+            case 3: return world.bookWhich[i];
             default: return NONE;
         }
     }
@@ -540,6 +540,16 @@ public final class LastToWince {
         System.arraycopy(from, 0, to, 0, Math.min(from.length, to.length));
     }
 
+    private static void sortInto(int[] sorted, int[] row, int n) {
+        for (int i = 0; i < n && i < row.length && i < sorted.length; i++) {
+            int at = i;
+            for (; at > 0 && sorted[at - 1] > row[i]; at--) {
+                sorted[at] = sorted[at - 1];
+            }
+            sorted[at] = row[i];
+        }
+    }
+
     /** Dealers, lots and what a sale changes of them: all that going back in time has to put back. */
     private static final class Room {
         int dealers = 0;
@@ -699,33 +709,6 @@ public final class LastToWince {
         }
     }
 
-    /** The rows of the book; the room knows how many of them stand, so that going back just shortens it. */
-    private static final class Book {
-        final int[] minute = new int[BOOK];
-        final int[] what = new int[BOOK];
-        final int[] who = new int[BOOK];
-        final int[] which = new int[BOOK];
-
-        void write(Room room, int itsWhat, int dealer, int itsWhich) {
-            int i = room.bookLines;
-            if (i < 0 || i >= BOOK) {
-                return;
-            }
-            minute[i] = room.minute;
-            what[i] = itsWhat;
-            who[i] = dealer;
-            which[i] = itsWhich;
-            room.bookLines++;
-        }
-
-        void copy(Book other) {
-            copyRow(other.minute, minute);
-            copyRow(other.what, what);
-            copyRow(other.who, who);
-            copyRow(other.which, which);
-        }
-    }
-
     /** The lines of a speech, of pinches or of a sale. */
     private static final class Lines {
         int count = 0;
@@ -831,9 +814,9 @@ public final class LastToWince {
             int top = 0;
             for (int i = from; i >= 0 && i < to && i < TAPE; i++) {
                 int op = ops[i];
-                if (op <= NUMBER) {
+                if (op >= 0 && op <= NUMBER) {
                     if (top < DEEPEST) {
-                        stack[top] = op == NUMBER || op < 0 ? args[i] : facts[op];
+                        stack[top] = op < FACTS ? facts[op] : args[i];
                         top++;
                     }
                 } else if (op == NOT) {
@@ -909,12 +892,28 @@ public final class LastToWince {
     /** All that an image holds. */
     private static final class World {
         final Room room = new Room();
-        final Book book = new Book();
         final Law law = new Law();
         final Lines speech = new Lines();
         final Lines pinches = new Lines();
         final Lines sale = new Lines();
         final Thoughts thoughts = new Thoughts();
+        // the room knows how many lines of the book stand, so that going back in time just shortens it
+        final int[] bookMinute = new int[BOOK];
+        final int[] bookWhat = new int[BOOK];
+        final int[] bookDealer = new int[BOOK];
+        final int[] bookWhich = new int[BOOK];
+
+        void write(int what, int dealer, int which) {
+            int i = room.bookLines;
+            if (i < 0 || i >= BOOK) {
+                return;
+            }
+            bookMinute[i] = room.minute;
+            bookWhat[i] = what;
+            bookDealer[i] = dealer;
+            bookWhich[i] = which;
+            room.bookLines++;
+        }
 
         Lines linesOf(int k) {
             if (k == SPEECH) {
@@ -950,12 +949,15 @@ public final class LastToWince {
 
         void copy(World other) {
             room.copy(other.room);
-            book.copy(other.book);
             law.copy(other.law);
             speech.copy(other.speech);
             pinches.copy(other.pinches);
             sale.copy(other.sale);
             thoughts.copy(other.thoughts);
+            copyRow(other.bookMinute, bookMinute);
+            copyRow(other.bookWhat, bookWhat);
+            copyRow(other.bookDealer, bookDealer);
+            copyRow(other.bookWhich, bookWhich);
         }
     }
 
@@ -1028,7 +1030,6 @@ public final class LastToWince {
         static final int OPEN_MOST = 8;
         static final int ANY = 0;
         static final int ALL = 1;
-        static final int SUM = 2;
 
         int length = 0;
         int fault = 0;
@@ -1039,8 +1040,11 @@ public final class LastToWince {
         private String words = LAW_WORDS;
         private int dealers = 0;
         private int lots = 0;
-        private int next = 0;
         private int tokens = 0;
+        private int next = 0;
+        private int kind = END;
+        private int value = 0;
+        private int begin = 0;
         // one more than bytes: the end is a token too
         private final int[] kinds = new int[TAPE + 1];
         private final int[] values = new int[TAPE + 1];
@@ -1063,11 +1067,12 @@ public final class LastToWince {
             law.lines = 0;
             law.length = 0;
             lines.count = 0;
-            next = 0;
+            next = NONE;
+            step();
             // a line begins with one of the first keywords of its text
             int begins = k == LAW ? CALM : k == SALE ? SALE_ADMIT : 0;
-            for (int line = 0; line <= LINES && kind() != END; line++) {
-                if (kind() != KEYWORD || value() > begins) {
+            for (int line = 0; line <= LINES && kind != END; line++) {
+                if (kind != KEYWORD || value > begins) {
                     return wrong(UNFIT);
                 }
                 if (line == LINES) {
@@ -1117,10 +1122,10 @@ public final class LastToWince {
             return stop;
         }
 
-        private void put(int kind, int value, int at) {
+        private void put(int itsKind, int itsValue, int at) {
             if (tokens <= TAPE) {
-                kinds[tokens] = kind;
-                values[tokens] = value;
+                kinds[tokens] = itsKind;
+                values[tokens] = itsValue;
                 places[tokens] = at;
                 tokens++;
             }
@@ -1152,25 +1157,25 @@ public final class LastToWince {
             return NONE;
         }
 
-        private int kind() {
-            return next >= 0 && next < tokens ? kinds[next] : END;
-        }
-
-        private int value() {
-            return next >= 0 && next < tokens ? values[next] : 0;
+        private void step() {
+            next++;
+            boolean there = next >= 0 && next < tokens && next <= TAPE;
+            kind = there ? kinds[next] : END;
+            value = there ? values[next] : 0;
+            begin = there ? places[next] : length;
         }
 
         private boolean isSign(char c) {
-            return kind() == SIGN && value() == c;
+            return kind == SIGN && value == c;
         }
 
         private boolean isWord(int keyword) {
-            return kind() == KEYWORD && value() == keyword;
+            return kind == KEYWORD && value == keyword;
         }
 
         private boolean wrong(int itsFault) {
             fault = itsFault;
-            place = next >= 0 && next < tokens ? places[next] : length;
+            place = begin;
             return false;
         }
 
@@ -1178,20 +1183,31 @@ public final class LastToWince {
             if (!isSign(c)) {
                 return wrong(UNFIT);
             }
-            next++;
+            step();
+            return true;
+        }
+
+        private boolean takesNumber(int least, int most) {
+            if (kind != NUMBER) {
+                return wrong(UNFIT);
+            }
+            if (value < least || value > most) {
+                return wrong(BEYOND);
+            }
+            step();
             return true;
         }
 
         private boolean lawLine(int line) {
-            law.told[line] = value();
+            law.told[line] = value;
             law.begin[line] = law.length;
-            next++;
-            if (!chain(SUM, 0)) {
+            step();
+            if (!sum()) {
                 return false;
             }
             law.when[line] = law.length;
             if (isWord(WHEN)) {
-                next++;
+                step();
                 if (!chain(ANY, 0)) {
                     return false;
                 }
@@ -1201,127 +1217,109 @@ public final class LastToWince {
             return true;
         }
 
-        /** What or joins, what and joins, or what + and - join: open tells how many ( and not are. */
+        /** What or joins and, a level below, what and joins; open is how many ( and not are. */
         private boolean chain(int level, int open) {
-            int join = NONE;
             for (int i = 0; i <= TAPE; i++) {
-                boolean right = level == ANY ? chain(ALL, open) : level == ALL ? condition(open) : term();
+                boolean right = level == ANY ? chain(ALL, open) : condition(open);
                 if (!right) {
                     return false;
                 }
-                if (join != NONE) {
-                    law.emit(join, 0);
+                if (i > 0) {
+                    law.emit(level == ANY ? Law.OR : Law.AND, 0);
                 }
-                join = joinOf(level);
-                if (join == NONE) {
+                if (!isWord(level == ANY ? OR : AND)) {
                     return true;
                 }
-                next++;
+                step();
             }
             return wrong(UNFIT);
         }
 
-        private int joinOf(int level) {
-            if (level == ANY) {
-                return isWord(OR) ? Law.OR : NONE;
-            }
-            if (level == ALL) {
-                return isWord(AND) ? Law.AND : NONE;
-            }
-            return isSign('+') ? Law.PLUS : isSign('-') ? Law.MINUS : NONE;
-        }
-
         private boolean condition(int open) {
-            if (!isWord(NOT) && !isSign('(')) {
-                return comparison();
-            }
-            if (open >= OPEN_MOST) {
-                return wrong(TOO_MANY);
-            }
             boolean not = isWord(NOT);
-            next++;
-            if (!not) {
-                return chain(ANY, open + 1) && closes(')');
+            if (not || isSign('(')) {
+                if (open >= OPEN_MOST) {
+                    return wrong(TOO_MANY);
+                }
+                step();
+                boolean right = not ? condition(open + 1) : chain(ANY, open + 1) && closes(')');
+                if (right && not) {
+                    law.emit(Law.NOT, 0);
+                }
+                return right;
             }
-            if (!condition(open + 1)) {
-                return false;
-            }
-            law.emit(Law.NOT, 0);
-            return true;
-        }
-
-        private boolean comparison() {
-            if (!chain(SUM, 0)) {
+            if (!sum()) {
                 return false;
             }
             int compare = isSign('<') ? Law.BELOW : isSign('=') ? Law.LIKE : isSign('>') ? Law.ABOVE : NONE;
             if (compare == NONE) {
                 return wrong(UNFIT);
             }
-            next++;
-            if (!chain(SUM, 0)) {
+            step();
+            if (!sum()) {
                 return false;
             }
             law.emit(compare, 0);
             return true;
         }
 
-        private boolean term() {
-            if (!unit()) {
-                return false;
-            }
-            for (int i = 0; i <= TAPE && (isSign('*') || isSign('/')); i++) {
-                boolean times = isSign('*');
-                next++;
-                if (times) {
-                    if (!unit()) {
-                        return false;
-                    }
-                    law.emit(Law.TIMES, 0);
-                } else {
-                    int divisor = value();
-                    if (!takesNumber(1, 9999)) {
-                        return false;
-                    }
-                    law.emit(Law.BY, divisor);
+        private boolean sum() {
+            int join = NONE;
+            for (int i = 0; i <= TAPE; i++) {
+                if (!term()) {
+                    return false;
                 }
+                if (join != NONE) {
+                    law.emit(join, 0);
+                }
+                join = isSign('+') ? Law.PLUS : isSign('-') ? Law.MINUS : NONE;
+                if (join == NONE) {
+                    return true;
+                }
+                step();
             }
-            return true;
+            return wrong(UNFIT);
         }
 
-        private boolean unit() {
-            if (kind() == NUMBER) {
-                law.emit(Law.NUMBER, value());
-            } else if (kind() == KEYWORD && value() >= FIRST_FACT) {
-                law.emit(value() - FIRST_FACT, 0);
-            } else {
-                return wrong(UNFIT);
+        private boolean term() {
+            int join = NONE;
+            for (int i = 0; i <= TAPE; i++) {
+                boolean number = kind == NUMBER;
+                boolean fact = kind == KEYWORD && value >= FIRST_FACT;
+                if (join == Law.BY ? !number : !number && !fact) {
+                    return wrong(UNFIT);
+                }
+                if (join == Law.BY) {
+                    if (value == 0) {
+                        return wrong(BEYOND);
+                    }
+                    law.emit(Law.BY, value);
+                } else {
+                    law.emit(number ? Law.NUMBER : value - FIRST_FACT, number ? value : 0);
+                }
+                if (join == Law.TIMES) {
+                    law.emit(Law.TIMES, 0);
+                }
+                step();
+                join = isSign('*') ? Law.TIMES : isSign('/') ? Law.BY : NONE;
+                if (join == NONE) {
+                    return true;
+                }
+                step();
             }
-            next++;
-            return true;
-        }
-
-        private boolean takesNumber(int least, int most) {
-            if (kind() != NUMBER) {
-                return wrong(UNFIT);
-            }
-            if (value() < least || value() > most) {
-                return wrong(BEYOND);
-            }
-            next++;
-            return true;
+            return wrong(UNFIT);
         }
 
         private boolean speechLine() {
-            next++;
-            int word = value();
+            step();
+            int word = value;
             if (!takesNumber(0, WORDS - 1)) {
                 return false;
             }
             int minutes = 1;
             if (isWord(FOR)) {
-                next++;
-                minutes = value();
+                step();
+                minutes = value;
                 if (!takesNumber(1, 60)) {
                     return false;
                 }
@@ -1331,19 +1329,19 @@ public final class LastToWince {
         }
 
         private boolean pinchesLine() {
-            next++;
-            int from = value();
+            step();
+            int from = value;
             if (!takesNumber(0, dealers - 1)) {
                 return false;
             }
             if (!isWord(PINCHES_WORD)) {
                 return wrong(UNFIT);
             }
-            next++;
-            if (kind() == NUMBER && value() == from) {
+            step();
+            int to = value;
+            if (kind == NUMBER && to == from) {
                 return wrong(BEYOND);
             }
-            int to = value();
             if (!takesNumber(0, dealers - 1)) {
                 return false;
             }
@@ -1352,18 +1350,18 @@ public final class LastToWince {
         }
 
         private boolean saleLine() {
-            int kind = value();
-            next++;
-            int number = value();
-            if (!takesNumber(0, kind == SALE_LOT ? lots - 1 : dealers - 1)) {
+            int what = value;
+            step();
+            int number = value;
+            if (!takesNumber(0, what == SALE_LOT ? lots - 1 : dealers - 1)) {
                 return false;
             }
             int light = NONE;
-            if (kind == SALE_LOT && (isWord(SALE_DARK) || isWord(SALE_LIGHT))) {
-                light = value();
-                next++;
+            if (what == SALE_LOT && (isWord(SALE_DARK) || isWord(SALE_LIGHT))) {
+                light = value;
+                step();
             }
-            lines.add(kind, number, light);
+            lines.add(what, number, light);
             return true;
         }
     }
@@ -1399,7 +1397,7 @@ public final class LastToWince {
             }
             winner = room.calmest(in);
             if (Integer.bitCount(in) > 1 && !thought) {
-                world.book.write(room, BOOK_LIGHT, winner, lot);
+                world.write(BOOK_LIGHT, winner, lot);
             }
             settle(room, lot, everWinced & first, thought);
         }
@@ -1416,7 +1414,7 @@ public final class LastToWince {
                     set |= 1 << d;
                     room.winced[d]++;
                     if (!thought) {
-                        world.book.write(room, BOOK_WINCED, d, word);
+                        world.write(BOOK_WINCED, d, word);
                     }
                 }
             }
@@ -1424,10 +1422,13 @@ public final class LastToWince {
         }
 
         private int remaining(Room room, int in, int wincing, int word, boolean thought) {
+            if (wincing == 0) {
+                return in;
+            }
             int dragged = world.pinchedBy(wincing) & in & ~wincing;
             for (int d = 0; d < room.dealers && !thought; d++) {
                 if (has(dragged, d)) {
-                    world.book.write(room, BOOK_DRAGGED, d, word);
+                    world.write(BOOK_DRAGGED, d, word);
                 }
             }
             int left = in & ~wincing & ~dragged;
@@ -1444,7 +1445,7 @@ public final class LastToWince {
             room.sold[lot] = winner;
             room.owned[winner]++;
             if (!thought) {
-                world.book.write(room, BOOK_SOLD, winner, lot);
+                world.write(BOOK_SOLD, winner, lot);
             }
             int calm = world.law.asked(room, CALM, winner, lot, 0, minutes, 1);
             room.nerve[winner] = Math.min(NERVE_MOST, room.nerve[winner] + calm);
@@ -1464,15 +1465,45 @@ public final class LastToWince {
         private final long[] couples = new long[WORDS];
         private final long[] delta = new long[BREATHS];
         private final int[] sorted = new int[BREATHS];
-        private final long[] sums = new long[1 << LOTS];
-        private final int[] parts = new int[1 << BREATHS];
+        // these are long and few objects need them, so they are made when they are first asked for
+        private long[] sums = null;
+        private int[] parts = null;
+
+        private long[] sumsOfSets() {
+            if (sums == null) {
+                sums = new long[1 << LOTS];
+            }
+            return sums;
+        }
+
+        private int[] partsOfSets() {
+            if (parts == null) {
+                parts = new int[1 << BREATHS];
+            }
+            return parts;
+        }
 
         int clearing(int present, Lines pinches) {
             reachAlong(present, pinches);
-            int found = present;
-            for (int set = 0; set <= present; set++) {
-                boolean fewer = (set & ~present) == 0 && Integer.bitCount(set) < Integer.bitCount(found);
-                if (fewer && union(set, reach) == present) {
+            return fewestCovering(present, reach, 32 - Integer.numberOfLeadingZeros(present));
+        }
+
+        int emptying(int present, int[] putsOut) {
+            return fewestCovering(present, putsOut, WORDS);
+        }
+
+        /** The fewest of the rows that cover all of what is to be covered: NONE if all of them do not. */
+        private int fewestCovering(int whole, int[] rows, int count) {
+            int[] covered = partsOfSets();
+            int found = NONE;
+            covered[0] = 0;
+            for (int set = 0; set < 1 << count && set < covered.length; set++) {
+                int row = Integer.numberOfTrailingZeros(set);
+                if (row < count && row < rows.length) {
+                    covered[set] = covered[set & set - 1] | rows[row];
+                }
+                boolean fewer = found == NONE || Integer.bitCount(set) < Integer.bitCount(found);
+                if (fewer && (whole & ~covered[set]) == 0) {
                     found = set;
                 }
             }
@@ -1493,27 +1524,6 @@ public final class LastToWince {
                     }
                 }
             }
-        }
-
-        private static int union(int set, int[] rows) {
-            int all = 0;
-            for (int i = 0; i < rows.length; i++) {
-                if (has(set, i)) {
-                    all |= rows[i];
-                }
-            }
-            return all;
-        }
-
-        int emptying(int present, int[] putsOut) {
-            int found = NONE;
-            for (int set = 0; set < 1 << WORDS; set++) {
-                boolean fewer = found == NONE || Integer.bitCount(set) < Integer.bitCount(found);
-                if (fewer && (present & ~union(set, putsOut)) == 0) {
-                    found = set;
-                }
-            }
-            return found;
         }
 
         void learnCouples(int dealers, int[] putsOut) {
@@ -1543,31 +1553,38 @@ public final class LastToWince {
         }
 
         int fewestTelling() {
+            long[] told = sumsOfSets();
             int every = (1 << WORDS) - 1;
             long all = toldApart(every);
             int fewest = WORDS;
-            for (int set = 0; set <= every; set++) {
-                if (Integer.bitCount(set) < fewest && toldApart(set) == all) {
-                    fewest = Integer.bitCount(set);
+            told[0] = 0;
+            for (int set = 0; set <= every && set < told.length; set++) {
+                int w = Integer.numberOfTrailingZeros(set);
+                if (w < WORDS) {
+                    told[set] = told[set & set - 1] | couples[w];
+                }
+                if (told[set] == all) {
+                    fewest = Math.min(fewest, Integer.bitCount(set));
                 }
             }
             return fewest;
         }
 
         int bought(Room room, int w) {
+            long[] sum = sumsOfSets();
             int unsold = room.unsold();
             int found = 0;
             long most = 0;
-            sums[0] = 0;
-            for (int set = 1; set <= unsold && set < sums.length; set++) {
+            sum[0] = 0;
+            for (int set = 1; set <= unsold && set < sum.length; set++) {
                 int lot = Integer.numberOfTrailingZeros(set);
                 if ((set & ~unsold) != 0 || lot >= LOTS) {
                     continue;
                 }
                 // what it costs stands above bit 32, what it is worth below
-                sums[set] = sums[set & set - 1] + ((long) (room.worth[lot] / 2) << 32) + room.worth[lot];
-                long worth = sums[set] & 0xFFFFFFFFL;
-                if (sums[set] >> 32 <= w && worth > most) {
+                sum[set] = sum[set & set - 1] + ((long) (room.worth[lot] / 2) << 32) + room.worth[lot];
+                long worth = sum[set] & 0xFFFFFFFFL;
+                if (sum[set] >> 32 <= w && worth > most) {
                     most = worth;
                     found = set;
                 }
@@ -1580,34 +1597,30 @@ public final class LastToWince {
          * parted into as many sets as can be that hold within themselves all that belongs there.
          */
         int fewestSwaps(int[] breathed, int count) {
+            long[] sum = sumsOfSets();
+            int[] most = partsOfSets();
             int n = Math.max(0, Math.min(count, Math.min(BREATHS, breathed.length)));
-            sort(breathed, n);
-            for (int i = 0; i < n; i++) {
-                delta[i] = weight(sorted[i], n) - weight(breathed[i], n);
-            }
-            sums[0] = 0;
-            parts[0] = 0;
-            for (int set = 1; set < 1 << n && set < parts.length; set++) {
+            learnMisplaced(breathed, n);
+            sum[0] = 0;
+            most[0] = 0;
+            for (int set = 1; set < 1 << n && set < most.length && set < sum.length; set++) {
                 int low = Integer.numberOfTrailingZeros(set);
-                sums[set] = sums[set & set - 1] + (low < n ? delta[low] : 0);
-                int most = 0;
+                sum[set] = sum[set & set - 1] + (low < n ? delta[low] : 0);
+                int before = 0;
                 for (int i = low; i < n; i++) {
                     if (has(set, i)) {
-                        most = Math.max(most, parts[set ^ 1 << i]);
+                        before = Math.max(before, most[set ^ 1 << i]);
                     }
                 }
-                parts[set] = sums[set] == 0 ? most + 1 : most;
+                most[set] = sum[set] == 0 ? before + 1 : before;
             }
-            return n - parts[(1 << n) - 1];
+            return n - most[(1 << n) - 1];
         }
 
-        private void sort(int[] row, int n) {
+        private void learnMisplaced(int[] breathed, int n) {
+            sortInto(sorted, breathed, n);
             for (int i = 0; i < n; i++) {
-                int at = i;
-                for (; at > 0 && sorted[at - 1] > row[i]; at--) {
-                    sorted[at] = sorted[at - 1];
-                }
-                sorted[at] = row[i];
+                delta[i] = weight(sorted[i], n) - weight(breathed[i], n);
             }
         }
 
@@ -1630,6 +1643,8 @@ public final class LastToWince {
         private final int[] members = new int[DEALERS];
         private final int[] against = new int[DEALERS];
         private final int[] cost = new int[SEATS * SEATS];
+        private final int[] winners = new int[SIGHTINGS];
+        private final int[] losers = new int[SIGHTINGS];
         private final int[] best = new int[SEATS << SEATS];
 
         int told(int what) {
@@ -1649,20 +1664,15 @@ public final class LastToWince {
             }
         }
 
-        private int placeOf(int dealer) {
-            for (int i = 0; i < size; i++) {
-                if (members[i] == dealer) {
-                    return i;
-                }
-            }
-            return NONE;
+        private static int placeIn(int set, int dealer) {
+            return Integer.bitCount(set & (1 << dealer) - 1);
         }
 
         void seat(int present, Lines pinches) {
             gather(present);
             size = Math.min(size, SEATS);
             total = 0;
-            learnSeats(pinches);
+            learnSeats(present, pinches);
             int full = (1 << size) - 1;
             for (int set = full; set > 0; set--) {
                 for (int last = 0; last < size; last++) {
@@ -1675,11 +1685,13 @@ public final class LastToWince {
             int set = 0;
             int last = NONE;
             for (int i = 0; i < size; i++) {
-                int next = set == 0 ? bestFirst() : bestSeat(set, last);
+                int next = bestSeat(set, last);
                 if (next == NONE) {
                     return;
                 }
-                total = set == 0 ? best[(1 << next) * SEATS + next] : total;
+                if (i == 0) {
+                    total = costBehind(set, last, next);
+                }
                 order[i] = members[next];
                 set |= 1 << next;
                 last = next;
@@ -1687,21 +1699,23 @@ public final class LastToWince {
         }
 
         // a way told twice is one way, so each is put down, not counted up
-        private void learnSeats(Lines pinches) {
+        private void learnSeats(int present, Lines pinches) {
             for (int i = 0; i < cost.length; i++) {
                 cost[i] = 0;
             }
             for (int i = 0; i < pinches.count && i < LINES; i++) {
-                int from = placeOf(pinches.first[i]);
-                int to = placeOf(pinches.second[i]);
-                if (within(from, SEATS - 1) && within(to, SEATS - 1)) {
-                    cost[from * SEATS + to] = 1;
+                int from = pinches.first[i];
+                int to = pinches.second[i];
+                int place = placeIn(present, from) * SEATS + placeIn(present, to);
+                if (has(present, from) && has(present, to) && place < cost.length) {
+                    cost[place] = 1;
                 }
             }
         }
 
         private int costBehind(int set, int last, int next) {
-            return cost[last * SEATS + next] + cost[next * SEATS + last] + best[(set | 1 << next) * SEATS + next];
+            int between = last == NONE ? 0 : cost[last * SEATS + next] + cost[next * SEATS + last];
+            return between + best[(set | 1 << next) * SEATS + next];
         }
 
         private int bestSeat(int set, int last) {
@@ -1719,36 +1733,19 @@ public final class LastToWince {
             return found;
         }
 
-        private int bestFirst() {
-            int found = NONE;
-            int least = 0;
-            for (int first = 0; first < size; first++) {
-                int its = best[(1 << first) * SEATS + first];
-                if (found == NONE || its < least) {
-                    found = first;
-                    least = its;
-                }
-            }
-            return found;
-        }
-
         void rank(Thoughts thoughts) {
-            int toldOf = 0;
-            for (int i = 0; i < thoughts.sightings && i < SIGHTINGS; i++) {
-                toldOf |= 1 << thoughts.outlasting[i] | 1 << thoughts.outlasted[i];
-            }
-            gather(toldOf);
+            int told = learnSightings(thoughts);
             int full = (1 << size) - 1;
             best[full] = 0;
             for (int set = full - 1; set >= 0; set--) {
-                learnAgainst(thoughts, set);
+                learnAgainst(told, set);
                 int next = bestRank(set);
                 best[set] = next == NONE ? 0 : against[next] + best[set | 1 << next];
             }
             total = best[0];
             int set = 0;
             for (int i = 0; i < size; i++) {
-                learnAgainst(thoughts, set);
+                learnAgainst(told, set);
                 int next = bestRank(set);
                 if (next == NONE) {
                     return;
@@ -1758,16 +1755,28 @@ public final class LastToWince {
             }
         }
 
+        private int learnSightings(Thoughts thoughts) {
+            int told = Math.min(thoughts.sightings, SIGHTINGS);
+            int toldOf = 0;
+            for (int i = 0; i < told; i++) {
+                toldOf |= 1 << thoughts.outlasting[i] | 1 << thoughts.outlasted[i];
+            }
+            gather(toldOf);
+            for (int i = 0; i < told; i++) {
+                winners[i] = placeIn(toldOf, thoughts.outlasting[i]);
+                losers[i] = placeIn(toldOf, thoughts.outlasted[i]);
+            }
+            return told;
+        }
+
         // whoever comes next goes against each that outlasted him and is not ahead of him
-        private void learnAgainst(Thoughts thoughts, int ahead) {
+        private void learnAgainst(int told, int ahead) {
             for (int i = 0; i < size; i++) {
                 against[i] = 0;
             }
-            for (int i = 0; i < thoughts.sightings && i < SIGHTINGS; i++) {
-                int winner = placeOf(thoughts.outlasting[i]);
-                int loser = placeOf(thoughts.outlasted[i]);
-                if (within(winner, DEALERS - 1) && within(loser, DEALERS - 1) && !has(ahead, winner)) {
-                    against[loser]++;
+            for (int i = 0; i < told; i++) {
+                if (!has(ahead, winners[i]) && losers[i] < DEALERS) {
+                    against[losers[i]]++;
                 }
             }
         }
@@ -1951,13 +1960,7 @@ public final class LastToWince {
             if (n < 1) {
                 return NONE;
             }
-            for (int i = 0; i < n; i++) {
-                int at = i;
-                for (; at > 0 && sorted[at - 1] > row[i]; at--) {
-                    sorted[at] = sorted[at - 1];
-                }
-                sorted[at] = row[i];
-            }
+            sortInto(sorted, row, n);
             return sorted[(n - 1) / 2];
         }
     }
