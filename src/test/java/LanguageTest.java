@@ -4,13 +4,16 @@ import java.io.InputStream;
 import java.lang.management.ManagementFactory;
 import java.lang.reflect.Constructor;
 import java.lang.reflect.Field;
+import java.lang.reflect.InvocationTargetException;
 import java.lang.reflect.Method;
 import java.lang.reflect.Modifier;
 import java.nio.file.Files;
 import java.nio.file.Path;
 import java.util.ArrayList;
 import java.util.Arrays;
+import java.util.Comparator;
 import java.util.List;
+import java.util.Random;
 import java.util.Set;
 import java.util.TreeSet;
 import java.util.regex.Matcher;
@@ -168,6 +171,34 @@ public final class LanguageTest {
         return sum + (is ^ x.image(i % 5 != 0) ? 1 : 0);
     }
 
+    /** Any arguments in any state: a call that throws is told with its numbers. */
+    private static void wild() throws IllegalAccessException {
+        Random random = new Random(512);
+        Method[] methods = LastToWince.class.getMethods();
+        Arrays.sort(methods, Comparator.comparing(Method::getName));
+        int[] edges = {-2, -1, 0, 1, 2, 3, 7, 8, 9, 10, 11, 12, 17, 99, 100, 255, 399, 400, 999, 1000, 1023, 9999,
+            Integer.MIN_VALUE, Integer.MAX_VALUE, 0x3B3B3B3B, 0x28282828, 0x31313131, 0x6E6F7420};
+        for (int run = 0; run < 400; run++) {
+            LastToWince x = new LastToWince();
+            for (int call = 0; call < 512; call++) {
+                Method m = methods[random.nextInt(methods.length)];
+                if (m.getDeclaringClass() != LastToWince.class) continue;
+                Object[] with = new Object[m.getParameterCount()];
+                for (int i = 0; i < with.length; i++) {
+                    boolean flag = m.getParameterTypes()[i] == boolean.class;
+                    int v = random.nextInt(30) == 0 ? random.nextInt() : random.nextBoolean()
+                        ? edges[random.nextInt(edges.length)] : random.nextInt(10);
+                    with[i] = flag ? (Object) random.nextBoolean() : (Object) v;
+                }
+                try {
+                    m.invoke(x, with);
+                } catch (InvocationTargetException e) {
+                    check(false, "7: " + m.getName() + Arrays.toString(with) + " threw " + e.getCause());
+                }
+            }
+        }
+    }
+
     private static void room() {
         var threads = (com.sun.management.ThreadMXBean) ManagementFactory.getThreadMXBean();
         long id = Thread.currentThread().getId();
@@ -185,11 +216,12 @@ public final class LanguageTest {
         System.out.println("an object is made of " + made + " bytes; 400 rounds of calls made " + calls);
     }
 
-    public static void main(String[] args) throws IOException {
+    public static void main(String[] args) throws IOException, IllegalAccessException {
         String path = System.getProperty("source", "src/main/java/LastToWince.java");
         members();
         source(Files.readString(Path.of(path)));
         library();
+        wild();
         room();
         System.out.println(wrong == 0 ? "the language is kept" : wrong + " rules are not kept");
         if (wrong != 0) System.exit(1);

@@ -396,6 +396,12 @@ public final class PromisesTest {
         fault(x, 0, "wincer 1;", 1, 0);
         fault(x, 0, "winceR 1;", 1, 0);
         fault(x, 0, "Wince 1;", 1, 0);
+        for (String letter : new String[] {"a", "z", "A", "Z"}) fault(x, 0, "wince" + letter + " 1;", 1, 0);
+        for (String sign : new String[] {"@", "[", "`", "{", ":"}) fault(x, 0, "wince" + sign + " 1;", 1, 5);
+        fault(x, 0, ";".repeat(400), 1, 0);
+        fault(x, 0, "calm" + "1".repeat(396), 1, 4);
+        is("400 bytes", tell(x, 0, "calm" + "1+".repeat(197) + "1;"), 1);
+        fault(x, 0, "calm" + "1+".repeat(198), 1, 400);
         fault(x, 0, "say 1;", 1, 0);
         fault(x, 0, "wince 12345;", 1, 6);
         fault(x, 0, "wince 1 2;", 1, 8);
@@ -830,6 +836,9 @@ public final class PromisesTest {
         is("two are enough", x.tells(NONE), 2);
         x.act(0, 0);
         is("barred ones are told too", x.tells(1), 3);
+        LastToWince two = room(0, 1, 2);
+        two.puts(5, 1);
+        is("two dealers, one word", two.tells(NONE), 1);
         is("bits", x.tells(256), NONE);
         is("bits", x.tells(-2), NONE);
         is("bits", x.tells(LOW), NONE);
@@ -1023,10 +1032,14 @@ public final class PromisesTest {
         for (int k = 0; k < 4; k++) tell(x, k, "");
         x.set(0, 0, 44);
         x.seen(NONE, 0);
+        x.seen(1, 2);
         x.claim(NONE);
+        x.claim(7);
         x.puts(0, 0);
         x.bring(NONE, 0);
+        x.bring(50, 1);
         x.breath(NONE);
+        x.breath(1);
         x.sell(1);
         x.state(1);
         for (int again = 0; again < 2; again++) {
@@ -1046,11 +1059,15 @@ public final class PromisesTest {
             is("pinches", x.of(0, 7), 2);
             is("law", x.winces(0, 0, 0), 1000);
             is("book", x.book(1, 1), 1);
+            is("seen", x.ranks(10), 0);
             is("seen", x.ranks(11), 1);
             is("claims", x.shares(9, NONE), 4);
             is("puts", x.outs(0), 1);
             is("brings", x.brings(0), 9);
+            x.bring(8, 1);
+            is("what it tires", x.brings(10), 1);
             is("breaths", x.breath(1), 2);
+            is("breaths", x.breaths(1), 1);
             is("a dealer anew", x.dealer(3, 3, 3, false), 2);
             is("he has nothing", x.of(2, 4) + x.of(2, 5) + x.of(2, 6), 0);
         }
