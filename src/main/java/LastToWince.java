@@ -190,10 +190,8 @@ public final class LastToWince {
     public int text(int k) {
         reader.fault = 0;
         reader.place = NONE;
-        if (!within(k, SALE)) {
-            return NONE;
-        }
-        boolean right = reader.reads(k, world.room.dealers, world.room.lots);
+        boolean right = within(k, SALE) && reader.reads(k, world.room.dealers, world.room.lots);
+        // the tape is empty then however it went, be there such a text or not
         reader.length = 0;
         if (!right) {
             return NONE;

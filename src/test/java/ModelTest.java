@@ -403,9 +403,9 @@ public final class ModelTest {
         int text(int k) {
             fault = 0;
             place = NONE;
-            if (k < 0 || k > 3) return NONE;
             byte[] bytes = tape;
             tape = new byte[0];
+            if (k < 0 || k > 3) return NONE;
             try {
                 return k == 0 ? readLaw(bytes) : k == 1 ? readSpeech(bytes)
                     : k == 2 ? readPinches(bytes) : readSale(bytes);
@@ -1123,7 +1123,8 @@ public final class ModelTest {
         int k = random.nextInt(4);
         String s = k == 0 ? law() : k == 1 ? speech() : k == 2 ? pinches() : sale();
         byte[] bytes = spoilt(s);
-        due("end(0)", x.end(0), y.end(0));
+        // now and then the tape is not cut first, so that what an earlier text left on it would show
+        if (random.nextInt(8) > 0) due("end(0)", x.end(0), y.end(0));
         for (int i = 0; i < bytes.length; i += 20) {
             var five = java.nio.ByteBuffer.wrap(Arrays.copyOfRange(bytes, i, i + 20));
             feed(five.getInt(), five.getInt(), five.getInt(), five.getInt(), five.getInt());
@@ -1133,6 +1134,7 @@ public final class ModelTest {
         boolean ok = due("text(" + as + ")", x.text(as), y.text(as));
         ok &= due("fault(0)", x.fault(0), y.faultOf(0));
         ok &= due("fault(1)", x.fault(1), y.faultOf(1));
+        if (random.nextInt(8) == 0) feed(0, 0, 0, 0, 0);
         if (!ok) System.out.println("  the text: " + new String(bytes, java.nio.charset.StandardCharsets.ISO_8859_1));
     }
 

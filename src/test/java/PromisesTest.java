@@ -336,6 +336,11 @@ public final class PromisesTest {
         is("the tape is empty behind a fault", x.feed(0, 0, 0, 0, 0), 20);
         is("end", x.end(21), false);
         is("nothing changed", x.feed(0, 0, 0, 0, 0), 40);
+        for (int k : new int[] {NONE, 4, LOW, HIGH}) {
+            is("no such text", x.text(k), NONE);
+            is("the tape is empty behind no such text", x.end(1), false);
+            is("and goes on from there", x.feed(0, 0, 0, 0, 0), 20);
+        }
         x = new LastToWince();
         x.act(2, 0);
         feedAll(x, "say 1;");
