@@ -512,9 +512,9 @@ public final class PromisesTest {
             is("law", tell(x, 0, "price 3;wince " + laws[i] + ";"), 2);
             is(laws[i], x.winces(0, 0, 5), want[i]);
         }
-        // (0 - 7) / 2 is -3 towards 0, and so 10 more is 7
-        tell(x, 0, "wince 0-7*1/2+10;");
-        is("towards 0", x.winces(0, 0, 0), 7);
+        // 9999 * 9999 * 23 wraps to -1995427273: by 9999 twice, each time towards 0, it is -19
+        tell(x, 0, "wince 9999*9999*23/9999/9999+100;");
+        is("towards 0", x.winces(0, 0, 0), 81);
         tell(x, 0, "wince 2-word*9/4+10;");
         is("a part is of its term alone", x.winces(0, 0, 1), 10);
         conditions(x);
