@@ -1,6 +1,6 @@
 /**
  * Rooms in which a lot goes to the dealer who winces last.
- * Every row that a call needs is made with the object and used again, so that no call makes anything.
+ * The rows that calls need are made once and used again, so that calls make next to nothing.
  */
 public final class LastToWince {
     public static final int NONE = -1;
@@ -58,7 +58,7 @@ public final class LastToWince {
     private final Past past = new Past();
     private final Reader reader = new Reader();
     private final Room imagined = new Room();
-    private final Auction auction = new Auction(world);
+    private final Auction auction = new Auction();
     private final Sets sets = new Sets();
     private final Orders orders = new Orders();
     private final Figures figures = new Figures();
@@ -114,7 +114,7 @@ public final class LastToWince {
             return NO_SUCH;
         }
         past.keep(world.room);
-        auction.hold(world.room, lot, false);
+        auction.hold(world, world.room, lot, false);
         return auction.winner;
     }
 
@@ -163,7 +163,7 @@ public final class LastToWince {
         if (!room.isLot(number) || room.sold[number] != NONE) {
             return false;
         }
-        auction.hold(room, number, false);
+        auction.hold(world, room, number, false);
         return auction.winner != NONE;
     }
 
@@ -277,7 +277,7 @@ public final class LastToWince {
             return NONE;
         }
         imagined.copy(world.room);
-        auction.hold(imagined, lot, true);
+        auction.hold(world, imagined, lot, true);
         if (auction.winner == NONE || what == 0) {
             return auction.winner;
         }
@@ -1369,13 +1369,9 @@ public final class LastToWince {
         int winner = NONE;
         int minutes = 0;
         int paid = 0;
-        private final World world;
 
-        Auction(World itsWorld) {
-            world = itsWorld;
-        }
-
-        void hold(Room room, int lot, boolean thought) {
+        /** The room is the world's own, or one that is only thought of: the texts and the book are the world's. */
+        void hold(World world, Room room, int lot, boolean thought) {
             winner = NONE;
             minutes = 0;
             paid = 0;
@@ -1387,8 +1383,8 @@ public final class LastToWince {
             int everWinced = 0;
             for (int i = 0; i < MINUTES && Integer.bitCount(in) > 1; i++) {
                 int word = world.wordAt(i);
-                int wincing = wincing(room, lot, in, word, thought);
-                in = remaining(room, in, wincing, word, thought);
+                int wincing = wincing(world, room, lot, in, word, thought);
+                in = remaining(world, room, in, wincing, word, thought);
                 everWinced |= wincing;
                 room.minute++;
                 minutes++;
@@ -1397,10 +1393,10 @@ public final class LastToWince {
             if (Integer.bitCount(in) > 1 && !thought) {
                 world.write(BOOK_LIGHT, winner, lot);
             }
-            settle(room, lot, everWinced & first, thought);
+            settle(world, room, lot, everWinced & first, thought);
         }
 
-        private int wincing(Room room, int lot, int in, int word, boolean thought) {
+        private int wincing(World world, Room room, int lot, int in, int word, boolean thought) {
             int count = Integer.bitCount(in);
             int set = 0;
             for (int d = 0; d < room.dealers && d < DEALERS; d++) {
@@ -1419,7 +1415,7 @@ public final class LastToWince {
             return set;
         }
 
-        private int remaining(Room room, int in, int wincing, int word, boolean thought) {
+        private int remaining(World world, Room room, int in, int wincing, int word, boolean thought) {
             if (wincing == 0) {
                 return in;
             }
@@ -1433,7 +1429,7 @@ public final class LastToWince {
             return left != 0 ? left : 1 << room.calmest(in);
         }
 
-        private void settle(Room room, int lot, int everWinced, boolean thought) {
+        private void settle(World world, Room room, int lot, int everWinced, boolean thought) {
             if (!room.isDealer(winner) || !room.isLot(lot)) {
                 return;
             }
@@ -1879,7 +1875,8 @@ public final class LastToWince {
                 int had = Math.max(0, Math.min(left, thoughts.claimed[i]));
                 sum += had * ordersOf(members) * ordersOf(k - 1 - members);
             }
-            return sum / ordersOf(k);
+            int orders = ordersOf(k);
+            return orders > 0 ? sum / orders : NONE;
         }
 
         private static int ordersOf(int n) {
